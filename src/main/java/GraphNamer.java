@@ -211,7 +211,6 @@ public final class GraphNamer {
     }
 
     private static void needSet(Graph graph, int set) {
-        // The unsigned shift keeps the sign bit in sight: a negative sum names vertex 31.
         if (set >>> graph.count != 0) {
             throw new NoSuchElementException("a vertex in the set isn't there");
         }
@@ -267,6 +266,10 @@ public final class GraphNamer {
             return (neighbours[v] >> w & 1) != 0;
         }
 
+        int degree(int v) {
+            return Integer.bitCount(neighbours[v]);
+        }
+
         void flipEdge(int v, int w) {
             neighbours[v] ^= 1 << w;
             neighbours[w] ^= 1 << v;
@@ -281,7 +284,7 @@ public final class GraphNamer {
         int edges() {
             int ends = 0;
             for (int v = 0; v < count; v++) {
-                ends += Integer.bitCount(neighbours[v]);
+                ends += degree(v);
             }
             return ends / 2;
         }
@@ -506,7 +509,8 @@ public final class GraphNamer {
 
         /** Whether u can be laid onto x beside what is laid. */
         private boolean fits(Graph graph, int u, int x, int laid) {
-            if (graph.colours[u] != graph.colours[x]) {
+            // Degrees would tell by the end: looking at them here ends hopeless trials early.
+            if (graph.colours[u] != graph.colours[x] || graph.degree(u) != graph.degree(x)) {
                 return false;
             }
             for (int p = 0; p < graph.count; p++) {
@@ -544,7 +548,9 @@ public final class GraphNamer {
             boolean parted = false;
             for (int v = 0; v < graph.count; v++) {
                 finer[v] = agreeing(graph, v);
-                parted |= finer[v] != cellOf[v];
+                if (finer[v] != cellOf[v]) {
+                    parted = true;
+                }
             }
             int[] coarser = cellOf;
             cellOf = finer;
