@@ -20,6 +20,22 @@ final class Graphs {
         }
     }
 
+    /** A new object whose graph 0 has this many vertices of colour 0, and no edges. */
+    static GraphNamer bare(int count) {
+        return with(0, plain(count));
+    }
+
+    /** A new object whose graph 0 has this many vertices of colour 0, and all edges. */
+    static GraphNamer whole(int count) {
+        GraphNamer namer = bare(count);
+        for (int v = 0; v < count; v++) {
+            for (int w = 0; w < v; w++) {
+                namer.join(0, v, w);
+            }
+        }
+        return namer;
+    }
+
     static int[] plain(int count) {
         return new int[count];
     }
