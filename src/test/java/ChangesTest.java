@@ -39,8 +39,8 @@ public final class ChangesTest {
     private static void paint() {
         GraphNamer namer = Graphs.with(2, new int[] {3, 1}, 0, 1);
         CHECKS.due("3: the colour before", 3, namer.paint(2, 0, 2));
-        CHECKS.due("3: the colour painted", 2, namer.paint(2, 0, 2));
-        CHECKS.due("3: the same colour again", 2, namer.paint(2, 0, 0));
+        CHECKS.due("3: the colour painted, which it may get again", 2, namer.paint(2, 0, 2));
+        CHECKS.due("3: another one behind that", 2, namer.paint(2, 0, 0));
         CHECKS.due("3: nothing else is changed", "0:\n1:\n2: 0/2 1/1\n", Graphs.state(namer));
     }
 
